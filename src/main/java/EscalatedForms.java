@@ -61,7 +61,7 @@ public final class EscalatedForms {
         }
         draft.begin(1);
         draft.set(0, 0, a);
-        return isStored(s) ? draft.det : UNFIT;
+        return storeDraft(s) ? draft.det : UNFIT;
     }
 
     public int form(int s, int sheet, int from, int n) {
@@ -86,7 +86,7 @@ public final class EscalatedForms {
         if (!draft.isInRange()) {
             return BAD;
         }
-        return isStored(s) ? n : UNFIT;
+        return storeDraft(s) ? n : UNFIT;
     }
 
     public int spread(int s, int sheet, int from) {
@@ -127,7 +127,7 @@ public final class EscalatedForms {
         }
         draft.load(f);
         draft.set(i, j, a);
-        return isStored(s) ? draft.det : UNFIT;
+        return storeDraft(s) ? draft.det : UNFIT;
     }
 
     public int at(int s, int i, int j) {
@@ -198,7 +198,7 @@ public final class EscalatedForms {
         }
         draft.load(f);
         draft.addLetter(i, j, c);
-        return isStored(s) ? draft.det : UNFIT;
+        return storeDraft(s) ? draft.det : UNFIT;
     }
 
     public int swap(int s, int i, int j) {
@@ -208,7 +208,7 @@ public final class EscalatedForms {
         }
         draft.load(f);
         draft.exchange(f, i, j);
-        return isStored(s) ? f.letters : UNFIT;
+        return storeDraft(s) ? f.letters : UNFIT;
     }
 
     public int scale(int s, int c) {
@@ -218,7 +218,7 @@ public final class EscalatedForms {
         }
         draft.load(f);
         draft.multiply(c);
-        return isStored(s) ? draft.det : UNFIT;
+        return storeDraft(s) ? draft.det : UNFIT;
     }
 
     public int join(int s, int t, int to) {
@@ -234,7 +234,7 @@ public final class EscalatedForms {
         draft.begin(letters);
         draft.paste(first, 0);
         draft.paste(second, first.letters);
-        return isStored(to) ? letters : UNFIT;
+        return storeDraft(to) ? letters : UNFIT;
     }
 
     public int reduce(int s) {
@@ -245,10 +245,10 @@ public final class EscalatedForms {
         draft.load(f);
         int steps = 0;
         // each step makes a square's entry less, so that there are fewer than 4 times 99
-        while (steps < GUARD && draft.isReducedOnce()) {
+        while (steps < GUARD && draft.reduceOnce()) {
             steps++;
         }
-        return isStored(s) ? steps : UNFIT;
+        return storeDraft(s) ? steps : UNFIT;
     }
 
     public int same(int s, int t) {
@@ -440,10 +440,10 @@ public final class EscalatedForms {
         if (refusal != 0) {
             return refusal;
         }
-        if (!broodOf(f).isShaped(k, draft)) {
+        if (!broodOf(f).shape(k, draft)) {
             return NONE;
         }
-        return isStored(to) ? draft.det : UNFIT;
+        return storeDraft(to) ? draft.det : UNFIT;
     }
 
     public int next(int s, int k, int what) {
@@ -463,7 +463,7 @@ public final class EscalatedForms {
         int greatestLack = 0;
         int firstClaim = NONE;
         for (int i = 0; i < span; i++) {
-            int lack = brood.isShaped(k + i, draft) ? greatestLackOfDraft() : 0;
+            int lack = brood.shape(k + i, draft) ? greatestLackOfDraft() : 0;
             greatestLack = Math.max(greatestLack, lack);
             if (lack == 0) {
                 claims++;
@@ -500,7 +500,7 @@ public final class EscalatedForms {
         if (tree.size >= NODES) {
             return FULL;
         }
-        if (!broodOf(f).isShaped(k, draft)) {
+        if (!broodOf(f).shape(k, draft)) {
             return NONE;
         }
         if (!draft.isLawful()) {
@@ -713,7 +713,7 @@ public final class EscalatedForms {
     }
 
     /** A draft that is no lawful form leaves the slot as it was. */
-    private boolean isStored(int s) {
+    private boolean storeDraft(int s) {
         if (!isSlot(s) || !draft.isLawful()) {
             return false;
         }
@@ -784,7 +784,7 @@ public final class EscalatedForms {
     private int greatestLackOfDraft() {
         ellipsoid.openWorths(draft.letters, draft.entries, RULE_ALL_TOP);
         int seen = 0;
-        for (int guard = 0; guard < GUARD && ellipsoid.isAdvanced(); guard++) {
+        for (int guard = 0; guard < GUARD && ellipsoid.advance(); guard++) {
             seen |= 1 << ellipsoid.worthHere();
         }
         for (int place = RULE_ALL.length - 1; place >= 0; place--) {
@@ -902,7 +902,7 @@ public final class EscalatedForms {
             set(i, i, square);
         }
 
-        boolean isReducedOnce() {
+        boolean reduceOnce() {
             for (int i = 0; i < letters; i++) {
                 for (int j = 0; j < letters; j++) {
                     int size = Math.abs(get(i, j));
@@ -1090,7 +1090,7 @@ public final class EscalatedForms {
         }
 
         /** To the next vector, if there is one more. */
-        boolean isAdvanced() {
+        boolean advance() {
             for (int guard = 0; guard < GUARD && level >= 0; guard++) {
                 if (x[level] <= low[level]) {
                     level--;
@@ -1126,7 +1126,7 @@ public final class EscalatedForms {
             int n = f.letters;
             firsts = new int[n * (NUMBER_TOP + 1)];
             ellipsoid.openWorths(n, f.entries, NUMBER_TOP);
-            for (int guard = 0; guard < GUARD && ellipsoid.isAdvanced(); guard++) {
+            for (int guard = 0; guard < GUARD && ellipsoid.advance(); guard++) {
                 int m = ellipsoid.worthHere();
                 if (m >= 0 && m <= NUMBER_TOP) {
                     if (counts[m] == 0) {
@@ -1240,7 +1240,7 @@ public final class EscalatedForms {
             draft.load(f);
             draft.letters = f.letters + 1;
             draft.set(f.letters, f.letters, truant);
-            for (int guard = 0; guard < GUARD && ellipsoid.isAdvanced(); guard++) {
+            for (int guard = 0; guard < GUARD && ellipsoid.advance(); guard++) {
                 int row = 0;
                 for (int j = 0; j < f.letters; j++) {
                     draft.set(f.letters, j, ellipsoid.x[j]);
@@ -1261,7 +1261,7 @@ public final class EscalatedForms {
         }
 
         /** The draft becomes child k, if there is one. */
-        boolean isShaped(int k, Draft draft) {
+        boolean shape(int k, Draft draft) {
             if (parent == null || k < 0 || k >= size) {
                 return false;
             }

@@ -1,12 +1,27 @@
 import java.lang.reflect.Method;
 import java.util.ArrayList;
 import java.util.List;
+import java.util.Map;
 import java.util.Random;
 
 /** Long runs of mixed calls on the class and on the plain model: every answer must be the same. */
 public final class ModelTest {
     private static final int CALLS = 380;
     private static final int[] ODD_INTS = {Integer.MIN_VALUE, Integer.MAX_VALUE, -1, 0, 1, 2, 3, 4, 5, 6, 7, 30, 31, 40, 41, 99, 100, 101, -99, -100};
+
+    /** What each number of a call is, so that most calls get beyond their refusals; see number(). */
+    private static final Map<String, String> KINDS = Map.ofEntries(
+        Map.entry("single", "sm"), Map.entry("form", "shfl"), Map.entry("spread", "shf"), Map.entry("clear", "s"),
+        Map.entry("entry", "slla"), Map.entry("at", "sll"), Map.entry("minor", "sl"), Map.entry("of", "sl"),
+        Map.entry("worth", "svvvv"), Map.entry("change", "slla"), Map.entry("swap", "sll"), Map.entry("scale", "sf"),
+        Map.entry("join", "sss"), Map.entry("reduce", "s"), Map.entry("same", "ss"), Map.entry("unlike", "ss"),
+        Map.entry("takes", "sm"), Map.entry("vector", "sml"), Map.entry("truant", "s"), Map.entry("exceptions", "sml"),
+        Map.entry("exception", "sm"), Map.entry("residues", "sf"), Map.entry("barred", "sv"), Map.entry("rule", "lf"),
+        Map.entry("claim", "sl"), Map.entry("lacks", "sll"), Map.entry("certify", "slhf"), Map.entry("children", "s"),
+        Map.entry("child", "sks"), Map.entry("next", "skl"), Map.entry("plant", "s"), Map.entry("branch", "Nk"),
+        Map.entry("ofNode", "Nf"), Map.entry("nodeTo", "Ns"), Map.entry("walk", "N"), Map.entry("cut", "N"),
+        Map.entry("sheet", "haz"), Map.entry("cell", "hfv"), Map.entry("item", "hf"), Map.entry("move", "hfhff"),
+        Map.entry("keep", ""), Map.entry("back", ""), Map.entry("count", "l"));
 
     private static final List<Method> CLASS = new ArrayList<>();
     private static final List<Method> MODEL = new ArrayList<>();
@@ -23,7 +38,7 @@ public final class ModelTest {
     }
 
     public static void main(String[] args) throws Exception {
-        int runs = args.length > 0 ? Integer.parseInt(args[0]) : 150;
+        int runs = args.length > 0 ? Integer.parseInt(args[0]) : 80;
         int first = args.length > 1 ? Integer.parseInt(args[1]) : 0;
         for (Method method : EscalatedForms.class.getDeclaredMethods()) {
             if (java.lang.reflect.Modifier.isPublic(method.getModifiers())) {
@@ -49,44 +64,58 @@ public final class ModelTest {
         for (int i = 0; i < 4; i++) {
             call("sheet", i, random.nextInt(3) - 1, random.nextInt(42));
         }
-        for (int i = 0; i < 5; i++) {
-            formOfSomeKind(random.nextInt(6));
+        for (int s = 0; s < 5; s++) {
+            if (random.nextInt(2) == 0) {
+                formOfSomeKind(s);
+            } else {
+                escalator(s);
+            }
         }
+        call("plant", random.nextInt(5));
         for (int i = 0; i < CALLS && wrong < 20; i++) {
             int dice = random.nextInt(100);
-            if (dice < 4) {
+            if (dice < 3) {
                 formOfSomeKind(random.nextInt(6));
-            } else if (dice < 10) {
-                call("child", slot(), random.nextInt(random.nextInt(300) + 1), slot());
-            } else if (dice < 18) {
-                call("branch", random.nextInt(Math.max(1, model.count(1))), random.nextInt(random.nextInt(200) + 1));
-            } else if (dice < 22) {
-                call("change", slot(), random.nextInt(4), random.nextInt(4), random.nextInt(5) - 2);
-            } else if (dice < 24) {
-                call("entry", slot(), random.nextInt(4), random.nextInt(4), random.nextInt(9) - 4);
+            } else if (dice < 6) {
+                escalator(random.nextInt(6));
+            } else if (dice < 14) {
+                anyCall("branch");
             } else {
-                anyCall();
+                anyCall(CLASS.get(random.nextInt(CLASS.size())).getName());
             }
         }
         compareAll();
     }
 
-    private int slot() {
-        return random.nextInt(6);
+    /** From one letter on, some child of a child of it, of up to four letters. */
+    private void escalator(int s) throws Exception {
+        call("single", s, 1 + random.nextInt(2));
+        int depth = random.nextInt(4);
+        for (int i = 0; i < depth; i++) {
+            call("child", s, random.nextInt(Math.max(1, model.children(s))), s);
+        }
     }
 
-    private int number() {
-        int dice = random.nextInt(20);
+    private int number(char kind) {
+        int dice = random.nextInt(40);
         if (dice == 0) {
             return ODD_INTS[random.nextInt(ODD_INTS.length)];
         }
         if (dice == 1) {
             return random.nextInt();
         }
-        if (dice < 5) {
-            return random.nextInt(106) - 3;
+        switch (kind) {
+            case 's': return random.nextInt(6);
+            case 'h': return random.nextInt(4);
+            case 'l': return random.nextInt(4);
+            case 'a': return random.nextInt(5) - 2;
+            case 'f': return random.nextInt(random.nextInt(18) + 1);
+            case 'm': return random.nextInt(101);
+            case 'k': return random.nextInt(random.nextInt(400) + 1);
+            case 'z': return random.nextInt(42);
+            case 'N': return random.nextInt(Math.max(1, model.count(1)));
+            default: return random.nextInt(2) == 0 ? random.nextInt(200) - 100 : random.nextInt() >> random.nextInt(32);
         }
-        return dice < 8 ? random.nextInt(20) : random.nextInt(6);
     }
 
     /** Entries are put on a sheet and made a form; often it is positive, sometimes its letters are far from short. */
@@ -113,21 +142,16 @@ public final class ModelTest {
         }
     }
 
-    private void anyCall() throws Exception {
-        Method method = CLASS.get(random.nextInt(CLASS.size()));
-        String name = method.getName();
+    private void anyCall(String name) throws Exception {
         // these end what a run has built: they come seldom
         boolean ends = name.equals("plant") || name.equals("cut") || name.equals("clear") || name.equals("back");
         if (ends && random.nextInt(4) != 0) {
             return;
         }
-        Object[] numbers = new Object[method.getParameterCount()];
+        String kinds = KINDS.get(name);
+        Object[] numbers = new Object[kinds.length()];
         for (int i = 0; i < numbers.length; i++) {
-            numbers[i] = number();
-        }
-        if (numbers.length > 0 && random.nextInt(10) != 0) {
-            numbers[0] = name.equals("ofNode") || name.equals("nodeTo") || name.equals("cut")
-                ? random.nextInt(Math.max(1, model.count(1))) : random.nextInt(6);
+            numbers[i] = number(kinds.charAt(i));
         }
         call(name, numbers);
     }
