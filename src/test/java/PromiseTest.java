@@ -170,6 +170,10 @@ public final class PromiseTest {
         asked(UNFIT, () -> x.form(0, 0, 3, 3));
         write(0, -1, 100, -1);
         asked(BAD, () -> x.form(0, 0, 0, 2));
+        write(0, 99, -99, 99, 99, 99, 99, -98, 99);
+        asked(UNFIT, () -> x.form(0, 0, 0, 2));
+        asked(UNFIT, () -> x.form(0, 0, 3, 2));
+        due(x.form(0, 0, 5, 2), 2);
         // a BOX of 1000000 at most: here it is 999999, and there 1000065
         due(make(0, 30, 18, 75, -18, -54, 41, 9, 27, -20, 10), 4);
         due(x.of(0, 2), 999999);
@@ -309,7 +313,9 @@ public final class PromiseTest {
         // the worth is small, but its parts are not
         asked(WIDE, () -> x.worth(2, MAX, MAX, 0, 0));
         asked((1L << 60) * 1, () -> x.worth(2, 1 << 30, 1 << 30, 0, 0));
-        make(2, 2, 0, 2);
+        make(2, 1, 0, 1);
+        asked(WIDE, () -> x.worth(2, MIN, MIN, 0, 0));
+        asked((1L << 62) + (long) MAX * MAX, () -> x.worth(2, MIN, MAX, 0, 0));
         asked(BAD, () -> x.worth(3, 1, 1, 1, 1));
         asked(BAD, () -> x.worth(-1, 1, 1, 1, 1));
         asked(BAD, () -> x.worth(6, MAX, 1, 1, 1));
@@ -437,6 +443,14 @@ public final class PromiseTest {
         make(1, 2, 1, 2);
         make(2, 2, -1, 2);
         make(3, 2, 1, 2, 0, 0, 2);
+        make(4, 2, 1, 3);
+        asked(0, () -> x.same(0, 4));
+        make(4, 3, 1, 2);
+        asked(0, () -> x.same(0, 4));
+        make(4, 2, 1, 2, 0, 0, 3);
+        asked(0, () -> x.same(3, 4));
+        make(4, 2, 1, 2, 0, 1, 2);
+        asked(0, () -> x.same(3, 4));
         asked(1, () -> x.same(0, 0));
         asked(1, () -> x.same(0, 1));
         asked(0, () -> x.same(0, 2));
@@ -565,6 +579,10 @@ public final class PromiseTest {
         asked(0, () -> x.exceptions(1, 100, 0));
         asked(0, () -> x.exceptions(1, 100, 2));
         asked(0, () -> x.exceptions(1, 1, 0));
+        x.single(1, 2);
+        asked(1, () -> x.exceptions(1, 1, 0));
+        asked(1, () -> x.exceptions(1, 1, 1));
+        asked(1, () -> x.exceptions(1, 2, 2));
         for (int bad : new int[] {-1, 0, 101, MIN, MAX}) {
             asked(BAD, () -> x.exceptions(0, bad, 0));
         }
@@ -611,6 +629,16 @@ public final class PromiseTest {
         asked(0b0101010101010101, () -> x.residues(0, 16));
         make(0, 3, -3, 6);
         asked(0b001, () -> x.residues(0, 3));
+        make(1, 3, 1, 5);
+        make(2, 8, -3, 8, 1, 2, 12);
+        make(3, 8, 4, 10, -2, 4, 24, 2, 0, -2, 6);
+        for (int s = 1; s < 4; s++) {
+            for (int m = 2; m <= 16; m++) {
+                int slot = s;
+                int modulus = m;
+                asked(residuesByHand(s, m), () -> x.residues(slot, modulus));
+            }
+        }
         for (int bad : new int[] {-1, 0, 1, 17, MIN, MAX}) {
             asked(BAD, () -> x.residues(0, bad));
         }
@@ -626,6 +654,7 @@ public final class PromiseTest {
         asked(NONE, () -> x.barred(0, 0));
         asked(NONE, () -> x.barred(0, 1));
         asked(NONE, () -> x.barred(0, 1681));
+        asked(16, () -> x.barred(0, 364));
         asked(3, () -> x.barred(0, -1));
         asked(4, () -> x.barred(0, -2));
         asked(3, () -> x.barred(0, MIN + 1));
@@ -642,6 +671,16 @@ public final class PromiseTest {
         for (int bad : new int[] {-1, 6, 5, MIN, MAX}) {
             asked(BAD, () -> x.barred(bad, 1));
         }
+    }
+
+    private static int residuesByHand(int s, int m) {
+        int n = x.of(s, 0);
+        int ways = (int) Math.pow(m, n);
+        int bits = 0;
+        for (int way = 0; way < ways; way++) {
+            bits |= 1 << x.worth(s, way % m, way / m % m, way / m / m % m, way / m / m / m) % m;
+        }
+        return bits;
     }
 
     private static void vectorIs(int s, int m, int... numbers) {
@@ -696,6 +735,9 @@ public final class PromiseTest {
         asked(15, () -> x.lacks(0, 0, 1));
         asked(NONE, () -> x.lacks(0, 0, 2));
         asked(NONE, () -> x.lacks(0, 0, -1));
+        x.single(1, 2);
+        asked(1, () -> x.lacks(1, 0, 0));
+        asked(3, () -> x.lacks(1, 0, 1));
         asked(7, () -> x.lacks(0, 1, 0));
         asked(15, () -> x.lacks(0, 1, 1));
         asked(NONE, () -> x.lacks(0, 1, 2));
@@ -836,6 +878,11 @@ public final class PromiseTest {
         nextIsAsItsChildren(2, 3);
         make(3, 1, 1, 3, 0, 0, 3);
         nextIsAsItsChildren(3, 1);
+        make(3, 1, 0, 2, 0, 0, 10);
+        nextIsAsItsChildren(3, 0);
+        asked(3, () -> x.next(3, 0, 3));
+        asked(67, () -> x.next(3, 64, 3));
+        asked(34, () -> x.next(3, 0, 1));
         x.single(4, 1);
         nextIsAsItsChildren(4, 0);
         for (int bad : new int[] {-1, MIN}) {
@@ -974,6 +1021,17 @@ public final class PromiseTest {
                 }
             }
         }
+        x.plant(0);
+        for (int node = 0; node < 3; node++) {
+            due(x.ofNode(0, 4), node);
+            due(x.ofNode(0, 5), 1);
+            due(x.branch(node, 0), node + 1);
+        }
+        due(x.ofNode(0, 4), 3);
+        due(x.branch(0, 0), 4);
+        due(x.ofNode(0, 4), 3);
+        due(x.ofNode(0, 5), 2);
+        due(x.ofNode(1, 5), 1);
         for (int bad : new int[] {-1, 9, MIN, MAX}) {
             asked(BAD, () -> x.ofNode(bad, 0));
             asked(BAD, () -> x.ofNode(0, bad));
