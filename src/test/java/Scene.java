@@ -51,17 +51,19 @@ final class Scene {
         looks++;
         if (got != want) {
             wrong++;
-            System.out.println("'" + name + "', line " + line() + ": " + what + " " + got + ", due is " + want);
+            System.out.println("'" + name + "', line " + lines() + ": " + what + " " + got + ", due is " + want);
         }
     }
 
-    private static int line() {
+    /** The lines of the test, from the innermost out. */
+    private static String lines() {
+        StringBuilder text = new StringBuilder();
         for (StackTraceElement one : new Throwable().getStackTrace()) {
-            if (one.getClassName().endsWith("Test")) {
-                return one.getLineNumber();
+            if (one.getClassName().endsWith("Test") && !one.getMethodName().equals("main")) {
+                text.append(text.length() == 0 ? "" : " of ").append(one.getLineNumber());
             }
         }
-        return 0;
+        return text.toString();
     }
 
     /** The call answers so, and belongs to the run from now on. */
